@@ -1617,7 +1617,6 @@ public final class BalloonsMoor {
 
         private boolean readOne(Told told, int i) {
             kind[i] = told.next();
-            second[i] = 0;
             switch (kind[i]) {
                 case 'l':
                 case 'c':
@@ -1709,11 +1708,15 @@ public final class BalloonsMoor {
             int ways = 0;
             for (int r = 0; r < rings.size && !(oneWillDo && ways > 0); r++) {
                 if (((open >> r) & 1) == 1) {
-                    place[i] = r;
-                    ways += waysFrom(i + 1, oneWillDo);
+                    ways += waysWith(i, r, oneWillDo);
                 }
             }
             return ways;
+        }
+
+        private int waysWith(int i, int ring, boolean oneWillDo) {
+            place[i] = ring;
+            return waysFrom(i + 1, oneWillDo);
         }
 
         private int openTo(int i) {
@@ -1782,10 +1785,14 @@ public final class BalloonsMoor {
                 isNear[t * DROPS + gone] = true;
             }
             for (int k = gone; t < within && k <= most; k++) {
-                if (lift[(t + 1) * DROPS + k] >= 0) {
-                    int high = highBy(lift[t * DROPS + k]);
-                    explore(t + 1, k, x + air.east[high], y + air.south[high]);
-                }
+                exploreHour(t, k, x, y);
+            }
+        }
+
+        private void exploreHour(int t, int k, int x, int y) {
+            if (lift[(t + 1) * DROPS + k] >= 0) {
+                int high = highBy(lift[t * DROPS + k]);
+                explore(t + 1, k, x + air.east[high], y + air.south[high]);
             }
         }
 
@@ -1843,13 +1850,17 @@ public final class BalloonsMoor {
             }
             for (int k = gone; k <= sacks; k++) {
                 drops[t] = k - gone;
-                int high = highBy(lift[t * DROPS + k]);
-                if (lift[(t + 1) * DROPS + k] >= 0
-                        && retraceFrom(t + 1, k, x + air.east[high], y + air.south[high])) {
+                if (retraceHour(t, k, x, y)) {
                     return true;
                 }
             }
             return false;
+        }
+
+        private boolean retraceHour(int t, int k, int x, int y) {
+            int high = highBy(lift[t * DROPS + k]);
+            return lift[(t + 1) * DROPS + k] >= 0
+                    && retraceFrom(t + 1, k, x + air.east[high], y + air.south[high]);
         }
     }
 
@@ -1929,10 +1940,14 @@ public final class BalloonsMoor {
             int open = fits[i] & ~taken;
             for (int b = 0; b < MOST_BALLOONS; b++) {
                 if (((open >> b) & 1) == 1) {
-                    who[i] = b;
-                    goFrom(i + 1, taken | 1 << b);
+                    goWith(i, b, taken);
                 }
             }
+        }
+
+        private void goWith(int i, int b, int taken) {
+            who[i] = b;
+            goFrom(i + 1, taken | 1 << b);
         }
 
         private void noteWay() {

@@ -89,6 +89,8 @@ public final class ActsTest {
         Desk.due("none such", x.sacks(2, 1), -1);
         Desk.due("more", x.sacks(0, 3), 7);
         Desk.due("above 9", x.sacks(0, 3), -3);
+        Desk.due("9", x.sacks(0, 2), 9);
+        x.sacks(0, -2);
         Desk.due("fewer", x.sacks(0, -5), 2);
         Desk.due("below 0", x.sacks(0, -3), -3);
         Desk.due("least", x.sacks(0, Integer.MIN_VALUE), -3);
@@ -205,6 +207,12 @@ public final class ActsTest {
         y.hours(1);
         Desk.dueRow("2 off, to the yard", y, 1, 0);
         Desk.due("no cell", y.balloon(0, 9), -1);
+        BalloonsMoor three = Desk.harbour("", "1,0011");
+        Desk.winds(three, "03/-/-/-/-/-/-/-/-/-");
+        three.launch(0);
+        Desk.rule(three, "g-1");
+        three.hours(1);
+        Desk.dueRow("3 off, lost", three, 0, 1);
         BalloonsMoor z = Desk.harbour("", "9,0010");
         z.launch(0);
         Desk.rule(z, "0-(h=1)");
@@ -248,6 +256,8 @@ public final class ActsTest {
         Desk.dueRow("at once", x, 1, 0);
         Desk.due("no act", x.count(9), 1);
         Desk.due("49 hours", Desk.day(x, "h49"), 0);
+        Desk.due("48 hours", Desk.day(x, "h48"), 1);
+        x.undo();
         Desk.due("0 hours", Desk.day(x, "h0;h00;h02"), 3);
         Desk.due("now", x.count(2), 4);
         Desk.due("0 sacks", Desk.day(x, "s0+0"), 0);

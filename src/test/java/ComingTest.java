@@ -48,6 +48,9 @@ public final class ComingTest {
         x.cargo(1, 9);
         Desk.due("heavier below", x.breaches(), 0);
         Desk.dueRow("nothing", x);
+        BalloonsMoor y = Desk.harbour("50;50", "60,1010;55,0010");
+        hang(y, 0, 1);
+        Desk.due("like heights", y.breaches(), 0);
     }
 
     private static void drifts() {

@@ -6,6 +6,7 @@ public final class LandingsTest {
         byHours();
         leastRow();
         notWhileDown();
+        notBeyondTheEdge();
         refused();
         nearest();
         Desk.close("LandingsTest");
@@ -84,8 +85,26 @@ public final class LandingsTest {
         x.rain(3);
         Desk.due("lift would be below 0: a sack is dropped", x.lands(0, 0, 6), 1);
         Desk.dueRow("ahead of the hour", x, 1, 1, 0);
+        Desk.due("nearest too", x.nearest(0, 6), 0);
+        Desk.dueRow("nearest too", x, 1, 1);
         x.rain(9);
         Desk.due("below 0 even so", x.lands(0, 0, 6), -2);
+        Desk.due("nearest too", x.nearest(0, 6), -2);
+    }
+
+    private static void notBeyondTheEdge() {
+        BalloonsMoor x = Desk.harbour("20", "9,0090");
+        Desk.rule(x, "h-1");
+        Desk.winds(x, "21/61/-/-/-/-/-/-/-/-");
+        x.hours(1);
+        x.launch(0);
+        x.hours(9);
+        Desk.due("at the edge", x.balloon(0, 9), 189);
+        Desk.due("the wind would turn an hour too late", x.lands(0, 0, 6), -2);
+        Desk.due("nearest too", x.nearest(0, 6), -2);
+        Desk.rule(x, "h");
+        Desk.due("in time", x.lands(0, 0, 6), 0);
+        Desk.dueRow("in time", x, 0, 0);
     }
 
     private static void refused() {

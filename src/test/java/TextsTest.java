@@ -124,6 +124,10 @@ public final class TextsTest {
         Desk.due("long", Desk.balloons(x, "7,00100"), -7);
         Desk.due("behind ;", Desk.balloons(x, "7,0010;"), -8);
         Desk.due("none of it comes", Desk.balloons(x, "7,0010;x"), -8);
+        Desk.due("no sacks", Desk.balloons(x, "7,;7,0010"), -3);
+        Desk.due("no cargo", Desk.balloons(x, "7,0;7,0010"), -4);
+        Desk.due("no rope", Desk.balloons(x, "7,00;7,0010"), -5);
+        Desk.due("no leak", Desk.balloons(x, "7,001;7,0010"), -6);
         Desk.due("still two", x.count(1), 2);
         Desk.due("nothing", Desk.balloons(x, ""), 0);
         Desk.due("one more", Desk.balloons(x, "00,1230"), 1);
