@@ -5,6 +5,7 @@ import java.util.NoSuchElementException;
 final class Desk {
     private static int asked = 0;
     private static int wrong = 0;
+    private static String about = "";
 
     private Desk() {
     }
@@ -48,6 +49,16 @@ final class Desk {
         return x.rule();
     }
 
+    /** A rule that has to be taken. */
+    static void ruled(BalloonsMoor x, String text) {
+        due("rule " + text, rule(x, text), 0);
+    }
+
+    /** Winds that have to be taken. */
+    static void blown(BalloonsMoor x, String text) {
+        due("winds " + text, winds(x, text) >= 0, true);
+    }
+
     static int day(BalloonsMoor x, String text) {
         tell(x, text);
         return x.day();
@@ -56,16 +67,38 @@ final class Desk {
     /** A tower and balloons, all else as at first. */
     static BalloonsMoor harbour(String tower, String balloons) {
         BalloonsMoor x = new BalloonsMoor();
-        tower(x, tower);
-        balloons(x, balloons);
+        due("tower " + tower, tower(x, tower), (tower.length() + 1) / 3);
+        due("balloons " + balloons, balloons(x, balloons), balloons.isEmpty() ? 0 : balloons.split(";").length);
         return x;
+    }
+
+    /** Launches BALLOONS 0, 1, .. and moors them at these RINGS. */
+    static void hang(BalloonsMoor x, int... rings) {
+        for (int b = 0; b < rings.length; b++) {
+            due("launch " + b, x.launch(b) >= 0, true);
+            due("moor " + b, x.moor(b, rings[b]) >= 0, true);
+        }
+    }
+
+    /** A cell as balloon() 9 tells it. */
+    static int cell(int x, int y) {
+        return 19 * (y + 9) + x + 9;
+    }
+
+    /** What the next answers are held for: it comes ahead of what is printed of a wrong one. */
+    static void speakOf(String what) {
+        about = what;
+    }
+
+    static int wrongs() {
+        return wrong;
     }
 
     static void due(String what, long got, long want) {
         asked++;
         if (got != want) {
             wrong++;
-            System.out.println(what + " answered " + got + ", due is " + want);
+            System.out.println(about + what + " answered " + got + ", due is " + want);
         }
     }
 
@@ -86,7 +119,7 @@ final class Desk {
         long[] got = rowOf(x);
         if (!Arrays.equals(got, want)) {
             wrong++;
-            System.out.println(what + " told the row " + Arrays.toString(got) + ", due is " + Arrays.toString(want));
+            System.out.println(about + what + " told the row " + Arrays.toString(got) + ", due is " + Arrays.toString(want));
         }
     }
 
@@ -95,7 +128,7 @@ final class Desk {
         try {
             long got = call.answer();
             wrong++;
-            System.out.println(what + " answered " + got + ", due is NoSuchElementException");
+            System.out.println(about + what + " answered " + got + ", due is NoSuchElementException");
         } catch (NoSuchElementException e) {
             return;
         }

@@ -11,7 +11,7 @@ public final class LooksTest {
     }
 
     private static void rings() {
-        BalloonsMoor x = Desk.harbour("35;40", "45,1121;35,0000");
+        BalloonsMoor x = Desk.harbour("35;40", "");
         Desk.balloons(x, "45,1121");
         Desk.winds(x, "-/-/-/73/-/-/-/-/-/-");
         Desk.due("height", x.ring(0, 0), 3);
