@@ -6,7 +6,7 @@ import java.util.Random;
 public final class RandomTest {
     private static final int RUNS = 600;
     private static final int CALLS = 400;
-    private static final int LANDINGS = 400;
+    private static final int LANDINGS = 8000;
     private static final String[] RULES = {"", "g-s*5-c*4-r", "g", "g/2+h-r", "90-g+(h>11)*20", "s*s-4", "g-s*(3+b)",
         "(h=3)*50+g/3", "0-(r>7)*g+5", "l*10-o+g-s*3", "-(s>4)+g/(h-5)", "(g>20)*(g-s*4-c*3)", "10*(9-s)-h*2"};
 
@@ -50,7 +50,7 @@ public final class RandomTest {
         x = new BalloonsMoor();
         m = new Plain();
         tell("tower", "00;10;30;40;60;70;90");
-        tell("balloons", (55 + draw(45)) + "," + draw(9) + "0" + (1 + draw(3)) + draw(8));
+        tell("balloons", (55 + draw(45)) + "," + draw(10) + "0" + (1 + draw(3)) + draw(8));
         tell("rule", new String[] {"", "g-s*9", "g/2-s*4+5", "s*9-h", "g-s*7-(h>2)*s*3"}[draw(5)]);
         tell("winds", lines(10, () -> "" + draw(8) + (1 + draw(3)), "/"));
         same("launch", x.launch(0), m.launch(0));
